@@ -455,9 +455,9 @@ public final class TrialBoots {
         }
     }
 
-    /** The starts that were, and the latest of them, which go round in the three rows. */
+    /** How many starts there were, and the latest ones, which go round in the three rows. */
     private static final class Starts {
-        int all, byWatchdog, kept, next;
+        int all, byWatchdog, kept;
         final int[] areas = new int[KEPT_STARTS];
         final int[] causes = new int[KEPT_STARTS];
         final int[] ticks = new int[KEPT_STARTS];
@@ -466,26 +466,25 @@ public final class TrialBoots {
             all = other.all;
             byWatchdog = other.byWatchdog;
             kept = other.kept;
-            next = other.next;
             System.arraycopy(other.areas, 0, areas, 0, KEPT_STARTS);
             System.arraycopy(other.causes, 0, causes, 0, KEPT_STARTS);
             System.arraycopy(other.ticks, 0, ticks, 0, KEPT_STARTS);
         }
 
         void add(int area, int cause, int allTicks) {
-            areas[next] = area;
-            causes[next] = cause;
-            ticks[next] = allTicks;
-            next = (next + 1) % KEPT_STARTS;
-            kept = Math.min(kept + 1, KEPT_STARTS);
             all++;
+            kept = Math.min(kept + 1, KEPT_STARTS);
+            int latest = indexOf(0);
+            areas[latest] = area;
+            causes[latest] = cause;
+            ticks[latest] = allTicks;
             if (cause == BY_WATCHDOG) {
                 byWatchdog++;
             }
         }
 
         int indexOf(int back) {
-            return Math.floorMod(next - 1 - back, KEPT_STARTS);
+            return Math.floorMod(all - 1 - back, KEPT_STARTS);
         }
     }
 
@@ -604,7 +603,7 @@ public final class TrialBoots {
 
     /** The states ahead of the latest changes, which go round in the row. */
     private static final class History {
-        int size, next;
+        int size, recorded;
         final Device[] states = new Device[KEPT_CHANGES];
 
         History() {
@@ -614,14 +613,14 @@ public final class TrialBoots {
         }
 
         void record(Device device) {
-            states[next].copyFrom(device);
-            next = (next + 1) % KEPT_CHANGES;
+            states[Math.floorMod(recorded, KEPT_CHANGES)].copyFrom(device);
+            recorded++;
             size = Math.min(size + 1, KEPT_CHANGES);
         }
 
         void takeBack(Device device) {
-            next = Math.floorMod(next - 1, KEPT_CHANGES);
-            device.copyFrom(states[next]);
+            recorded--;
+            device.copyFrom(states[Math.floorMod(recorded, KEPT_CHANGES)]);
             size--;
         }
     }

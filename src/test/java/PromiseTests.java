@@ -85,7 +85,7 @@ public final class PromiseTests {
         due("finish of a sound image", x.finish(slot), 1);
     }
 
-    /** Ends with the golden copy running only if told so: the confirmed slot runs. */
+    /** The slot runs then. */
     private static void confirmed(TrialBoots x, int slot, int version) {
         onTrial(x, slot, version, 0, 1);
         due("the slot to be confirmed runs", x.start(false), slot);
@@ -537,16 +537,18 @@ public final class PromiseTests {
     }
 
     private static void startTriesAndPower() {
-        TrialBoots x = new TrialBoots();
-        x.set(TRIES, 2);
-        onTrial(x, 0, 1, 0, 0);
-        due("first try", x.start(false), 0);
-        due("one less", x.slot(0, LEFT), 1);
-        due("second try", x.start(true), 0);
-        due("none left", x.slot(0, LEFT), 0);
-        due("still on trial", x.slot(0, STATE), TRIAL);
-        due("no third", x.start(false), 2);
-        due("bad", x.slot(0, STATE), BAD);
+        for (int slot = 0; slot < 2; slot++) {
+            TrialBoots x = new TrialBoots();
+            x.set(TRIES, 2);
+            onTrial(x, slot, 1, 0, 0);
+            due("first try", x.start(false), slot);
+            due("one less", x.slot(slot, LEFT), 1);
+            due("second try", x.start(true), slot);
+            due("none left", x.slot(slot, LEFT), 0);
+            due("still on trial", x.slot(slot, STATE), TRIAL);
+            due("no third", x.start(false), 2);
+            due("bad", x.slot(slot, STATE), BAD);
+        }
 
         TrialBoots y = new TrialBoots();
         y.set(TRIES, 1);

@@ -255,7 +255,7 @@ public final class TrialBoots {
     public int nextStart() {
         whatIf.copyFrom(device);
         for (int ticks = 1; ticks <= MOST_TICKS_AHEAD; ticks++) {
-            if (whatIf.startsInTick()) {
+            if (whatIf.needsStartInTick()) {
                 return ticks;
             }
         }
@@ -572,15 +572,16 @@ public final class TrialBoots {
         int letPass(int count) {
             int started = 0;
             for (int i = 0; i < count; i++) {
-                if (startsInTick()) {
+                if (needsStartInTick()) {
+                    startBy(BY_WATCHDOG);
                     started++;
                 }
             }
             return started;
         }
 
-        /** Lets one tick pass, and tells whether a start came in it. */
-        boolean startsInTick() {
+        /** Lets one tick pass, and tells whether the watchdog has to start in it, which is left to the caller. */
+        boolean needsStartInTick() {
             Area area = areaAt(running);
             ticks++;
             allTicks++;
@@ -593,11 +594,7 @@ public final class TrialBoots {
             }
             boolean hungTooLong = hungTicks >= settings[PATIENCE];
             boolean onTrialTooLong = area.state == TRIAL && ticks >= TRIAL_PATIENCES * settings[PATIENCE];
-            if (!hungTooLong && !onTrialTooLong) {
-                return false;
-            }
-            startBy(BY_WATCHDOG);
-            return true;
+            return hungTooLong || onTrialTooLong;
         }
     }
 

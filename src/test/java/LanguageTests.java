@@ -7,7 +7,9 @@ import java.nio.file.Files;
 import java.nio.file.Path;
 import java.util.ArrayList;
 import java.util.List;
+import java.util.Map;
 import java.util.Set;
+import java.util.TreeMap;
 import java.util.TreeSet;
 import java.util.regex.Matcher;
 import java.util.regex.Pattern;
@@ -34,6 +36,7 @@ public final class LanguageTests {
         face();
         insideClasses();
         lengthOfMethods();
+        depthOfCalls(code);
         System.out.println(wrong == 0 ? "the rules hold" : wrong + " rules are broken");
         if (wrong != 0) {
             System.exit(1);
@@ -147,5 +150,44 @@ public final class LanguageTests {
                 start = -1;
             }
         }
+    }
+
+    /** Methods of one name are taken as one, so that the depth may be found too great, but not too small. */
+    private static void depthOfCalls(String code) {
+        Map<String, Set<String>> calls = new TreeMap<>();
+        Matcher method = Pattern.compile("(?ms)^( {4}| {8})(?:[\\w\\[\\]]+ )+(\\w+)\\([^;{]*\\) \\{\n(.*?)^\\1\\}").matcher(code);
+        for (int from = 0; method.find(from); from = method.end(2)) {
+            if (!method.group().contains(" class ")) {
+                calls.computeIfAbsent(method.group(2), name -> new TreeSet<>()).addAll(callsIn(method.group(3)));
+            }
+        }
+        if (!calls.keySet().containsAll(names())) {
+            broken("rule 11: not all methods were found: " + calls.keySet());
+        }
+        for (String name : names()) {
+            int depth = depthOf(name, calls, 0);
+            if (depth > 8) {
+                broken("rule 11: the calls of " + name + " go deeper than eight");
+            }
+        }
+    }
+
+    private static Set<String> callsIn(String body) {
+        Set<String> called = new TreeSet<>();
+        Matcher call = Pattern.compile("(\\w+)\\(").matcher(body);
+        while (call.find()) {
+            called.add(call.group(1));
+        }
+        return called;
+    }
+
+    private static int depthOf(String name, Map<String, Set<String>> calls, int above) {
+        int deepest = 0;
+        for (String called : calls.get(name)) {
+            if (above < 20 && calls.containsKey(called) && !called.equals(name)) {
+                deepest = Math.max(deepest, depthOf(called, calls, above + 1));
+            }
+        }
+        return deepest + 1;
     }
 }

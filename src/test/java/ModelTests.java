@@ -10,7 +10,8 @@ import java.util.Random;
  * where the program goes tick by tick, so that a slip in the one is not likely one in the other.
  */
 public final class ModelTests {
-    private static final int RUNS = 3000, CALLS = 512;
+    // Nothing is promised behind an object's 512th call.
+    private static final int RUNS = 6000, CALLS = 512, CALLS_OF_COMPARING = 155;
     private static final String[] NAMES = {"set", "begin", "fill", "fillAll", "finish", "damage", "repair", "start", "pass",
         "slot", "word", "wear", "past", "count", "padSum", "ifStarted", "ifPassed", "nextStart", "lasts", "put", "wipe",
         "fault", "undo", "save", "restore"};
@@ -31,7 +32,7 @@ public final class ModelTests {
                 fail("no run had an error from " + NAMES[i]);
             }
         }
-        System.out.println(RUNS + " runs of " + CALLS + " calls answer as the model does");
+        System.out.println(RUNS + " runs of at most " + CALLS + " calls answer as the model does");
         roomOfCalls();
     }
 
@@ -44,23 +45,37 @@ public final class ModelTests {
     private static void roomOfCalls() {
         com.sun.management.ThreadMXBean threads =
             (com.sun.management.ThreadMXBean) java.lang.management.ManagementFactory.getThreadMXBean();
-        TrialBoots x = new TrialBoots();
         long self = Thread.currentThread().getId();
+        callOften(new TrialBoots());
+        TrialBoots x = new TrialBoots();
         long before = threads.getThreadAllocatedBytes(self);
-        for (int i = 0; i < CALLS; i++) {
-            x.start(false);
-            x.pass(500);
-            x.nextStart();
-            x.ifPassed(500, 0);
-            x.save(0);
-            x.restore(0);
-            x.undo();
-        }
+        callOften(x);
         long made = threads.getThreadAllocatedBytes(self) - before;
-        if (made > 100_000) {
+        if (made > 5_000) {
             fail("the calls of a run made objects of " + made + " bytes");
         }
         System.out.println("the calls of a run make no objects of their own");
+    }
+
+    private static void callOften(TrialBoots x) {
+        for (int i = 0; i < CALLS / 16; i++) {
+            x.begin(0, 0, 32, 0);
+            x.put(0x3030);
+            x.fillAll(0);
+            x.repair(1);
+            x.start(false);
+            x.pass(500);
+            x.damage(1, 1, 1);
+            x.nextStart();
+            x.ifPassed(500, 0);
+            x.ifStarted(true);
+            x.save(0);
+            x.restore(0);
+            x.slot(0, 6);
+            x.past(0, 0);
+            x.undo();
+            x.undo();
+        }
     }
 
     /** One run: the same calls on an object and on a model. */
@@ -72,6 +87,7 @@ public final class ModelTests {
         private final TrialBoots program = new TrialBoots();
         private final Model model = new Model();
         private final List<String> calls = new ArrayList<>();
+        private int left = CALLS;
 
         Walk(int run, int[] answers, int[] errors) {
             this.run = run;
@@ -80,22 +96,30 @@ public final class ModelTests {
             this.random = new Random(run);
         }
 
+        /** Every fourth run is one of calls alone; in the others all that can be seen is compared on the way and at the end. */
         void go() {
-            while (calls.size() < CALLS) {
+            boolean isCompared = run % 4 != 0;
+            while (left > (isCompared ? CALLS_OF_COMPARING : 0)) {
                 if (random.nextInt(8) == 0) {
-                    makeImage(random.nextInt(2));
+                    makeImage(random.nextInt(2), isCompared ? CALLS_OF_COMPARING : 0);
                 } else {
                     callAny();
                 }
-                if (random.nextInt(16) == 0) {
+                if (isCompared && left > 2 * CALLS_OF_COMPARING && random.nextInt(64) == 0) {
                     compareAll();
                 }
             }
-            compareAll();
+            if (isCompared) {
+                compareAll();
+            }
         }
 
-        private void makeImage(int slot) {
+        private void makeImage(int slot, int kept) {
             int[] words = new int[2 + (random.nextInt(3) == 0 ? random.nextInt(31) : 0)];
+            if (left < kept + words.length + 2) {
+                callAny();
+                return;
+            }
             for (int i = 0; i < words.length; i++) {
                 words[i] = random.nextInt(3) == 0 ? random.nextInt(256) : random.nextInt(12);
             }
@@ -157,9 +181,6 @@ public final class ModelTests {
         }
 
         private void call(int name, int a, int b, int c, int d, long characters) {
-            if (calls.size() >= CALLS) {
-                return;
-            }
             calls.add(NAMES[name] + "(" + a + ", " + b + ", " + c + ", " + d + ", " + characters + ")");
             int got = ofProgram(name, a, b, c, d, characters);
             int want = model.answer(name, a, b, c, d, characters);
@@ -215,6 +236,10 @@ public final class ModelTests {
         }
 
         private int ofProgram(int name, int a, int b, int c, int d, long characters) {
+            left--;
+            if (left < 0) {
+                fail("run " + run + ": more than " + CALLS + " calls on one object");
+            }
             switch (name) {
                 case 0: return program.set(a, b);
                 case 1: return program.begin(a, b, c, d);

@@ -1,18 +1,7 @@
 import java.util.Arrays;
 
 /** The promises 1 to 26 of ../shared/DOC.md, each with ordinary calls, edges and wrong ones. */
-public final class PromiseTests {
-    private static final int NO_SUCH = -1, BAD_VALUE = -2, BAD_TEXT = -3, TOO_MANY = -4, NOT_POSSIBLE = -5, NONE = -6;
-    private static final int TRIES = 0, PATIENCE = 1, ENDURANCE = 2;
-    private static final int EMPTY = 0, FILLING = 1, TRIAL = 2, CONFIRMED = 3, BAD = 4;
-    private static final int STATE = 0, VERSION = 1, LENGTH = 2, TOLD = 3, LEFT = 4, FILLED = 5, SUM = 6, WEAR = 7, WORN = 8;
-    private static final int RUNS = 0, TICKS = 1, HUNG = 2, LEAST = 3, STARTS = 4, WATCHDOG = 5, ALL_TICKS = 6;
-    private static final int PAD = 11, UNDOABLE = 12;
-    private static final int MIN = Integer.MIN_VALUE, MAX = Integer.MAX_VALUE;
-
-    private static int wrong = 0;
-    private static String promise = "";
-
+public final class PromiseTests extends Checks {
     public static void main(String[] args) {
         newObject();
         settings();
@@ -43,104 +32,13 @@ public final class PromiseTests {
         undo();
         save();
         restore();
-        System.out.println(wrong == 0 ? "all promises hold" : wrong + " answers are not as due");
-        if (wrong != 0) {
-            System.exit(1);
-        }
-    }
-
-    // ---- help
-
-    private static void due(String what, long got, long want) {
-        if (got != want) {
-            wrong++;
-            System.out.println(promise + ": " + what + " is " + got + ", due is " + want);
-        }
-    }
-
-    private static void same(String what, String got, String want) {
-        if (!got.equals(want)) {
-            wrong++;
-            System.out.println(promise + ": " + what + "\n  is  " + got + "\n  due " + want);
-        }
-    }
-
-    private static int sumOf(int... words) {
-        int sum = 1;
-        for (int word : words) {
-            sum = (3 * sum + word) % 251;
-        }
-        return sum;
-    }
-
-    private static void beginAndFill(TrialBoots x, int slot, int version, int told, int... words) {
-        x.begin(slot, version, words.length, told);
-        for (int word : words) {
-            x.fill(slot, word);
-        }
-    }
-
-    private static void onTrial(TrialBoots x, int slot, int version, int... words) {
-        beginAndFill(x, slot, version, sumOf(words), words);
-        due("finish of a sound image", x.finish(slot), 1);
-    }
-
-    /** The slot runs then. */
-    private static void confirmed(TrialBoots x, int slot, int version) {
-        onTrial(x, slot, version, 0, 1);
-        due("the slot to be confirmed runs", x.start(false), slot);
-        x.pass(1);
-        due("the slot is confirmed", x.slot(slot, STATE), CONFIRMED);
-    }
-
-    private static long packed(String text) {
-        long characters = 0;
-        for (int i = 0; i < text.length(); i++) {
-            characters = characters << 8 | text.charAt(i);
-        }
-        return characters;
-    }
-
-    private static void putText(TrialBoots x, String text) {
-        for (int i = 0; i < text.length(); i += 8) {
-            x.put(packed(text.substring(i, Math.min(text.length(), i + 8))));
-        }
-    }
-
-    /** All that can be seen, except the pad and the history. */
-    private static String view(TrialBoots x) {
-        StringBuilder seen = new StringBuilder();
-        for (int what = 0; what <= 10; what++) {
-            seen.append(x.count(what)).append(' ');
-        }
-        for (int back = 0; back < 13; back++) {
-            for (int what = 0; what < 3; what++) {
-                seen.append(x.past(back, what)).append(' ');
-            }
-        }
-        for (int slot = 0; slot < 2; slot++) {
-            seen.append("| ");
-            for (int what = 0; what < 9; what++) {
-                seen.append(x.slot(slot, what)).append(' ');
-            }
-            for (int word = 0; word < 32; word++) {
-                seen.append(x.word(slot, word)).append(' ');
-            }
-            for (int page = 0; page < 8; page++) {
-                seen.append(x.wear(slot, page)).append(' ');
-            }
-        }
-        return seen.toString();
-    }
-
-    private static String whole(TrialBoots x) {
-        return view(x) + "| " + x.count(PAD) + " " + x.count(UNDOABLE) + " " + x.padSum() + " " + x.fault();
+        end("all promises hold");
     }
 
     // ---- the promises
 
     private static void newObject() {
-        promise = "1 a new object";
+        testing("1 a new object");
         TrialBoots x = new TrialBoots();
         int[] counts = {2, 0, 0, 0, 0, 0, 0, 9, 3, 10, 20, 0, 0};
         for (int what = 0; what < counts.length; what++) {
@@ -169,26 +67,29 @@ public final class PromiseTests {
     }
 
     private static void settings() {
-        promise = "2 set";
-        TrialBoots x = new TrialBoots();
+        testing("2 set");
         int[] first = {3, 10, 20};
         int[] most = {9, 99, 60};
         for (int setting = 0; setting < 3; setting++) {
+            TrialBoots x = new TrialBoots();
             due("first value", x.set(setting, most[setting]), first[setting]);
             due("greatest value", x.count(8 + setting), most[setting]);
             due("to the least", x.set(setting, 1), most[setting]);
-            String before = whole(x);
+            String before = viewAndPad(x);
             due("below", x.set(setting, 0), BAD_VALUE);
             due("above", x.set(setting, most[setting] + 1), BAD_VALUE);
             due("far below", x.set(setting, MIN), BAD_VALUE);
             due("far above", x.set(setting, MAX), BAD_VALUE);
-            same("a wrong set changes nothing", whole(x), before);
+            same("a wrong set changes nothing", viewAndPad(x), before);
             due("to the same", x.set(setting, 1), 1);
+            due("each set is a change", x.count(UNDOABLE), 3);
         }
+        TrialBoots x = new TrialBoots();
         for (int setting : new int[] {-1, 3, MIN, MAX}) {
             due("no such setting", x.set(setting, 1), BAD_VALUE);
         }
-        due("each set is a change", x.count(UNDOABLE), 6);
+        due("a wrong one is none", x.count(UNDOABLE), 0);
+        x.set(TRIES, 1);
         onTrial(x, 0, 0, 0, 0);
         due("TRIES count at the finish", x.slot(0, LEFT), 1);
         x.set(TRIES, 7);
@@ -196,7 +97,7 @@ public final class PromiseTests {
     }
 
     private static void begin() {
-        promise = "3 begin";
+        testing("3 begin");
         TrialBoots x = new TrialBoots();
         for (int word = 0; word < 32; word++) {
             x.damage(1, word, 15);
@@ -224,7 +125,7 @@ public final class PromiseTests {
     }
 
     private static void beginErrors(TrialBoots x) {
-        String before = whole(x);
+        String before = viewAndPad(x);
         for (int slot : new int[] {-1, 2, 3, MIN, MAX}) {
             due("no such slot", x.begin(slot, -1, 2, 0), NO_SUCH);
         }
@@ -237,18 +138,18 @@ public final class PromiseTests {
         for (int sum : new int[] {-1, 251, MIN, MAX}) {
             due("sum", x.begin(0, 0, 2, sum), BAD_VALUE);
         }
-        same("errors change nothing", whole(x), before);
+        same("errors change nothing", viewAndPad(x), before);
         due("greatest values", x.begin(0, 99, 32, 250), 1);
     }
 
     private static void beginNotPossible() {
         TrialBoots x = new TrialBoots();
         confirmed(x, 0, 5);
-        String before = whole(x);
+        String before = viewAndPad(x);
         due("the running slot", x.begin(0, 5, 2, 0), NOT_POSSIBLE);
         due("bad value goes first", x.begin(0, 5, 1, 0), BAD_VALUE);
         due("below the least version", x.begin(1, 4, 2, 0), NOT_POSSIBLE);
-        same("errors change nothing", whole(x), before);
+        same("errors change nothing", viewAndPad(x), before);
         due("the least version", x.begin(1, 5, 2, 0), 1);
         x.set(ENDURANCE, 2);
         due("the last time", x.begin(1, 5, 2, 0), 2);
@@ -279,7 +180,7 @@ public final class PromiseTests {
     }
 
     private static void fill() {
-        promise = "4 fill";
+        testing("4 fill");
         TrialBoots x = new TrialBoots();
         due("an empty slot", x.fill(0, 0), NOT_POSSIBLE);
         x.begin(0, 0, 3, sumOf(0, 255, 17));
@@ -292,7 +193,7 @@ public final class PromiseTests {
         due("word 1", x.word(0, 1), 255);
         due("word 2", x.word(0, 2), 17);
         due("word 3", x.word(0, 3), 255);
-        String before = whole(x);
+        String before = viewAndPad(x);
         due("all words are there", x.fill(0, 1), NOT_POSSIBLE);
         for (int slot : new int[] {-1, 2, MIN, MAX}) {
             due("no such slot", x.fill(slot, -1), NO_SUCH);
@@ -300,7 +201,7 @@ public final class PromiseTests {
         for (int word : new int[] {-1, 256, MIN, MAX}) {
             due("word", x.fill(0, word), BAD_VALUE);
         }
-        same("errors change nothing", whole(x), before);
+        same("errors change nothing", viewAndPad(x), before);
         x.finish(0);
         due("on trial", x.fill(0, 1), NOT_POSSIBLE);
         x.begin(1, 0, 32, 0);
@@ -314,7 +215,7 @@ public final class PromiseTests {
     }
 
     private static void fillAll() {
-        promise = "5 fillAll";
+        testing("5 fillAll");
         TrialBoots x = new TrialBoots();
         for (int slot : new int[] {-1, 2, MIN, MAX}) {
             due("no such slot", x.fillAll(slot), NO_SUCH);
@@ -323,9 +224,14 @@ public final class PromiseTests {
         putText(x, "00f");
         due("half a word, and the slot is empty", x.fillAll(0), BAD_TEXT);
         putText(x, "f");
-        String before = whole(x);
+        String before = viewAndPad(x);
         due("an empty slot", x.fillAll(0), NOT_POSSIBLE);
-        same("errors change nothing", whole(x), before);
+        same("errors change nothing", viewAndPad(x), before);
+        fillAllInParts();
+    }
+
+    private static void fillAllInParts() {
+        TrialBoots x = withPad("00ff");
         x.begin(0, 0, 4, 0);
         x.fill(0, 9);
         due("two words", x.fillAll(0), 3);
@@ -334,9 +240,9 @@ public final class PromiseTests {
         due("word 1", x.word(0, 1), 0);
         due("word 2", x.word(0, 2), 255);
         putText(x, "1a2b");
-        before = whole(x);
+        String before = viewAndPad(x);
         due("one too many", x.fillAll(0), TOO_MANY);
-        same("none is filled in", whole(x), before);
+        same("none is filled in", viewAndPad(x), before);
         due("undo", x.undo(), 2);
         due("undone", x.slot(0, FILLED), 1);
         due("the pad is not undone", x.count(PAD), 4);
@@ -356,7 +262,7 @@ public final class PromiseTests {
     }
 
     private static void finish() {
-        promise = "6 finish";
+        testing("6 finish");
         TrialBoots x = new TrialBoots();
         for (int slot : new int[] {-1, 2, MIN, MAX}) {
             due("no such slot", x.finish(slot), NO_SUCH);
@@ -366,9 +272,9 @@ public final class PromiseTests {
         x.begin(0, 1, 3, sumOf(4, 5, 6));
         x.fill(0, 4);
         x.fill(0, 5);
-        String before = whole(x);
+        String before = viewAndPad(x);
         due("a word lacks", x.finish(0), NOT_POSSIBLE);
-        same("an error changes nothing", whole(x), before);
+        same("an error changes nothing", viewAndPad(x), before);
         x.fill(0, 6);
         due("a sound image", x.finish(0), 1);
         due("is on trial", x.slot(0, STATE), TRIAL);
@@ -388,7 +294,7 @@ public final class PromiseTests {
     }
 
     private static void damage() {
-        promise = "7 damage";
+        testing("7 damage");
         TrialBoots x = new TrialBoots();
         due("one bit", x.damage(0, 0, 1), 254);
         due("all bits", x.damage(0, 0, 255), 1);
@@ -396,7 +302,7 @@ public final class PromiseTests {
         due("seen", x.word(1, 31), 127);
         due("other slot", x.word(0, 31), 255);
         due("changes", x.count(UNDOABLE), 3);
-        String before = whole(x);
+        String before = viewAndPad(x);
         for (int slot : new int[] {-1, 2, MIN, MAX}) {
             due("no such slot", x.damage(slot, 0, 0), NO_SUCH);
         }
@@ -406,7 +312,7 @@ public final class PromiseTests {
         for (int bits : new int[] {0, 256, -1, MIN, MAX}) {
             due("bits", x.damage(0, 0, bits), BAD_VALUE);
         }
-        same("errors change nothing", whole(x), before);
+        same("errors change nothing", viewAndPad(x), before);
         onTrial(x, 0, 0, 0, 0);
         x.damage(0, 1, 3);
         due("sum now", x.slot(0, SUM), sumOf(0, 3));
@@ -418,7 +324,7 @@ public final class PromiseTests {
     }
 
     private static void repair() {
-        promise = "8 repair";
+        testing("8 repair");
         TrialBoots x = new TrialBoots();
         x.set(ENDURANCE, 2);
         beginAndFill(x, 0, 44, 0, 1, 2, 3, 4, 5);
@@ -433,12 +339,12 @@ public final class PromiseTests {
             due("word " + word, x.word(0, word), words[word]);
         }
         due("wear of page 1", x.wear(0, 1), 1);
-        String before = whole(x);
+        String before = viewAndPad(x);
         due("worn out", x.repair(0), NOT_POSSIBLE);
         for (int slot : new int[] {-1, 2, MIN, MAX}) {
             due("no such slot", x.repair(slot), NO_SUCH);
         }
-        same("errors change nothing", whole(x), before);
+        same("errors change nothing", viewAndPad(x), before);
         due("an empty slot", x.repair(1), 1);
         due("it starts", x.start(false), 0);
         due("the golden copy does not run", x.repair(1), NOT_POSSIBLE);
@@ -476,7 +382,7 @@ public final class PromiseTests {
     }
 
     private static void startChoice() {
-        promise = "9 start";
+        testing("9 start");
         TrialBoots x = new TrialBoots();
         due("golden", x.start(false), 2);
         due("is recorded", x.count(UNDOABLE), 1);
@@ -579,13 +485,13 @@ public final class PromiseTests {
     }
 
     private static void passHangs() {
-        promise = "10 pass";
+        testing("10 pass");
         TrialBoots x = new TrialBoots();
-        String before = whole(x);
+        String before = viewAndPad(x);
         for (int ticks : new int[] {0, 501, -1, MIN, MAX}) {
             due("ticks", x.pass(ticks), BAD_VALUE);
         }
-        same("errors change nothing", whole(x), before);
+        same("errors change nothing", viewAndPad(x), before);
         due("golden never hangs", x.pass(500), 0);
         due("ticks", x.count(TICKS), 500);
         due("is recorded", x.count(UNDOABLE), 1);
@@ -736,14 +642,14 @@ public final class PromiseTests {
     }
 
     private static void slot() {
-        promise = "11 slot";
+        testing("11 slot");
         TrialBoots x = new TrialBoots();
         x.set(ENDURANCE, 2);
         beginAndFill(x, 1, 8, 77, 1, 2, 3);
         x.begin(1, 98, 6, 76);
         x.fill(1, 200);
         int[] due = {FILLING, 98, 6, 76, 0, 1, sumOf(200, 255, 255, 255, 255, 255), 2, 1};
-        String before = whole(x);
+        String before = viewAndPad(x);
         for (int what = 0; what < due.length; what++) {
             due("what " + what, x.slot(1, what), due[what]);
         }
@@ -754,7 +660,7 @@ public final class PromiseTests {
         for (int what : new int[] {-1, 9, MIN, MAX}) {
             due("what", x.slot(0, what), BAD_VALUE);
         }
-        same("nothing changes", whole(x), before);
+        same("nothing changes", viewAndPad(x), before);
         x.set(ENDURANCE, 1);
         due("worn out", x.slot(1, WORN), 2);
         due("worn out", x.slot(0, WORN), 0);
@@ -774,7 +680,7 @@ public final class PromiseTests {
     }
 
     private static void word() {
-        promise = "12 word";
+        testing("12 word");
         TrialBoots x = new TrialBoots();
         x.damage(0, 31, 1);
         x.damage(1, 0, 2);
@@ -795,7 +701,7 @@ public final class PromiseTests {
     }
 
     private static void wear() {
-        promise = "13 wear";
+        testing("13 wear");
         TrialBoots x = new TrialBoots();
         x.begin(0, 0, 32, 0);
         x.begin(0, 0, 29, 0);
@@ -817,7 +723,7 @@ public final class PromiseTests {
     }
 
     private static void past() {
-        promise = "14 past";
+        testing("14 past");
         TrialBoots x = new TrialBoots();
         due("no start", x.past(0, 0), NO_SUCH);
         due("no start, and no such thing", x.past(0, 3), NO_SUCH);
@@ -864,7 +770,7 @@ public final class PromiseTests {
     }
 
     private static void count() {
-        promise = "15 count";
+        testing("15 count");
         TrialBoots x = new TrialBoots();
         x.set(TRIES, 4);
         x.set(PATIENCE, 5);
@@ -890,7 +796,7 @@ public final class PromiseTests {
     }
 
     private static void padSum() {
-        promise = "16 padSum";
+        testing("16 padSum");
         TrialBoots x = new TrialBoots();
         due("empty", x.padSum(), BAD_TEXT);
         putText(x, "0");
@@ -910,14 +816,14 @@ public final class PromiseTests {
     }
 
     private static void ifStarted() {
-        promise = "17 ifStarted";
+        testing("17 ifStarted");
         TrialBoots x = new TrialBoots();
         due("new", x.ifStarted(false), 2);
         x.set(TRIES, 1);
         onTrial(x, 0, 1, 1, 1);
-        String before = whole(x);
+        String before = viewAndPad(x);
         due("on trial", x.ifStarted(false), 0);
-        same("nothing changes", whole(x), before);
+        same("nothing changes", viewAndPad(x), before);
         x.start(false);
         due("no tries left", x.ifStarted(false), 12);
         onTrial(x, 1, 1, 1, 1);
@@ -940,7 +846,7 @@ public final class PromiseTests {
     }
 
     private static void ifPassed() {
-        promise = "18 ifPassed";
+        testing("18 ifPassed");
         TrialBoots x = new TrialBoots();
         x.set(PATIENCE, 2);
         onTrial(x, 0, 1, 3, 0);
@@ -948,7 +854,7 @@ public final class PromiseTests {
         x.start(false);
         int[] ticks = {1, 3, 4, 5, 8, 11, 12, 13, 500};
         int[] starts = {0, 0, 1, 1, 2, 2, 3, 3, 3};
-        String before = whole(x);
+        String before = viewAndPad(x);
         for (int i = 0; i < ticks.length; i++) {
             due("starts in " + ticks[i], x.ifPassed(ticks[i], 0), starts[i]);
             due("area behind " + ticks[i], x.ifPassed(ticks[i], 1), ticks[i] < 12 ? 0 : 1);
@@ -961,7 +867,7 @@ public final class PromiseTests {
         for (int what : new int[] {-1, 4, MIN, MAX}) {
             due("what", x.ifPassed(1, what), BAD_VALUE);
         }
-        same("nothing changes", whole(x), before);
+        same("nothing changes", viewAndPad(x), before);
         TrialBoots y = new TrialBoots();
         onTrial(y, 1, 1, 0, 3);
         y.start(false);
@@ -971,15 +877,15 @@ public final class PromiseTests {
     }
 
     private static void nextStart() {
-        promise = "19 nextStart";
+        testing("19 nextStart");
         TrialBoots x = new TrialBoots();
         due("golden", x.nextStart(), NONE);
         x.set(PATIENCE, 99);
         onTrial(x, 0, 1, 0, 0);
         x.start(false);
-        String before = whole(x);
+        String before = viewAndPad(x);
         due("trial", x.nextStart(), 990);
-        same("nothing changes", whole(x), before);
+        same("nothing changes", viewAndPad(x), before);
         x.pass(489);
         x.pass(500);
         due("in the next tick", x.nextStart(), 1);
@@ -1000,7 +906,7 @@ public final class PromiseTests {
     }
 
     private static void lasts() {
-        promise = "20 lasts";
+        testing("20 lasts");
         TrialBoots x = new TrialBoots();
         due("new", x.lasts(0, 2), 20);
         x.begin(0, 0, 4, 0);
@@ -1031,7 +937,7 @@ public final class PromiseTests {
     }
 
     private static void put() {
-        promise = "21 put";
+        testing("21 put");
         TrialBoots x = new TrialBoots();
         due("one", x.put(packed("a")), 1);
         due("two", x.put(packed("bc")), 3);
@@ -1041,11 +947,11 @@ public final class PromiseTests {
         due("the order", x.padSum(), sumOf(0xab, 0xc0, 0x12, 0x34, 0x56, 0x7d));
         long[] wrongs = {0, 32, 127, 255, 256, packed("a") << 8, 0x6100610061L, 0x0100000061L, 1L << 63 | 'a', -1, Long.MIN_VALUE,
             Long.MAX_VALUE, packed("a b"), 0x6120616161616161L, packed("aaaaaaa") << 8, 0x6100616161616161L, 0x2061616161616161L};
-        String before = whole(x);
+        String before = viewAndPad(x);
         for (long characters : wrongs) {
             due("wrong " + Long.toHexString(characters), x.put(characters), BAD_VALUE);
         }
-        same("errors change nothing", whole(x), before);
+        same("errors change nothing", viewAndPad(x), before);
         due("the least and the greatest code", x.put(33L << 8 | 126), 14);
         due("its fault", x.fault(), 12);
         due("no change", x.count(UNDOABLE), 0);
@@ -1065,7 +971,7 @@ public final class PromiseTests {
     }
 
     private static void wipe() {
-        promise = "22 wipe";
+        testing("22 wipe");
         TrialBoots x = new TrialBoots();
         due("empty", x.wipe(), 0);
         putText(x, "00112233445566");
@@ -1079,7 +985,7 @@ public final class PromiseTests {
     }
 
     private static void fault() {
-        promise = "23 fault";
+        testing("23 fault");
         String[] texts = {"", "0", "00", "000", "g", "0g", "00g", "00A", "0/", "0:", "0`", "0f", "af09", "a`", "0@", "zz", "00 ".trim() + "~"};
         int[] faults = {0, 1, NONE, 3, 0, 1, 2, 2, 1, 1, 1, NONE, NONE, 1, 1, 0, 2};
         for (int i = 0; i < texts.length; i++) {
@@ -1097,21 +1003,17 @@ public final class PromiseTests {
     }
 
     private static void undo() {
-        promise = "24 undo";
+        testing("24 undo");
         TrialBoots x = new TrialBoots();
         due("nothing", x.undo(), NOT_POSSIBLE);
-        String[] views = new String[10];
-        for (int i = 0; i < 9; i++) {
-            views[i] = view(x);
-            change(x, i);
+        due("six states", behindChanges(9).count(UNDOABLE), 6);
+        for (int undone = 1; undone <= 7; undone++) {
+            TrialBoots y = behindChanges(9);
+            for (int i = 1; i <= undone; i++) {
+                due("left", y.undo(), i <= 6 ? 6 - i : NOT_POSSIBLE);
+            }
+            same("undone " + undone, view(y), view(behindChanges(9 - Math.min(undone, 6))));
         }
-        due("six states", x.count(UNDOABLE), 6);
-        for (int i = 8; i >= 3; i--) {
-            due("left", x.undo(), i - 3);
-            same("undone " + i, view(x), views[i]);
-        }
-        due("no more", x.undo(), NOT_POSSIBLE);
-        same("stays", view(x), views[3]);
         x.set(TRIES, 1);
         x.set(TRIES, 2);
         due("one", x.undo(), 1);
@@ -1132,6 +1034,14 @@ public final class PromiseTests {
         due("what was saved stays", x.count(STARTS), starts + 1);
     }
 
+    private static TrialBoots behindChanges(int changes) {
+        TrialBoots x = new TrialBoots();
+        for (int i = 0; i < changes; i++) {
+            change(x, i);
+        }
+        return x;
+    }
+
     /** Nine changes of many kinds, each of which changes what is seen. */
     private static void change(TrialBoots x, int kind) {
         switch (kind) {
@@ -1148,7 +1058,7 @@ public final class PromiseTests {
     }
 
     private static void save() {
-        promise = "25 save";
+        testing("25 save");
         TrialBoots x = new TrialBoots();
         for (int place : new int[] {-1, 2, MIN, MAX}) {
             due("no such place", x.save(place), BAD_VALUE);
@@ -1168,17 +1078,45 @@ public final class PromiseTests {
     }
 
     private static void restore() {
-        promise = "26 restore";
+        testing("26 restore");
         TrialBoots x = new TrialBoots();
         for (int place : new int[] {-1, 2, MIN, MAX}) {
             due("no such place", x.restore(place), BAD_VALUE);
         }
         due("nothing saved", x.restore(1), NOT_POSSIBLE);
         due("no change", x.count(UNDOABLE), 0);
-        String[] views = new String[10];
+        for (int steps = 1; steps <= RESTORE_STEPS; steps++) {
+            TrialBoots y = new TrialBoots();
+            for (int i = 1; i < steps; i++) {
+                restoreStep(y, i);
+            }
+            int answer = restoreStep(y, steps);
+            // The places 0 and 1 hold what was behind 5 and 8 changes.
+            int[] changes = {9, 5, 8, 5, 8, 5, 9};
+            // The history is full by the step 4; the later ones undo two, one and one change.
+            int[] answers = {0, 2, 0, 2, 4, 3, 2};
+            due("answer of step " + steps, answer, answers[steps - 1]);
+            same("step " + steps, view(y), view(behindChanges(changes[steps - 1])));
+        }
+        restoreKeepsPadAndHistory();
+    }
+
+    private static final int RESTORE_STEPS = 7;
+
+    private static int restoreStep(TrialBoots x, int step) {
+        switch (step) {
+            case 1: return nineChangesSaved(x);
+            case 2: return x.restore(0);
+            case 3: return x.restore(1);
+            case 4: x.start(false); return x.restore(0);
+            case 5: x.undo(); return x.undo();
+            default: return x.undo();
+        }
+    }
+
+    private static int nineChangesSaved(TrialBoots x) {
         for (int i = 0; i < 9; i++) {
             change(x, i);
-            views[i] = view(x);
             if (i == 4) {
                 x.save(0);
             }
@@ -1186,27 +1124,20 @@ public final class PromiseTests {
                 x.save(1);
             }
         }
+        return x.count(RUNS);
+    }
+
+    private static void restoreKeepsPadAndHistory() {
+        TrialBoots x = new TrialBoots();
+        nineChangesSaved(x);
         putText(x, "7777");
         due("golden runs in the first", x.restore(0), 2);
-        same("the first", view(x), views[4]);
         due("the slot 0 runs in the second", x.restore(1), 0);
-        same("the second", view(x), views[7]);
-        due("golden again", x.restore(0), 2);
-        same("the first stays", view(x), views[4]);
         due("the pad stays", x.count(PAD), 4);
         due("the history stays", x.count(UNDOABLE), 6);
         x.start(false);
         x.pass(5);
         x.restore(0);
-        same("what comes behind does not reach it", view(x), views[4]);
-        x.undo();
-        x.undo();
-        x.undo();
-        x.undo();
-        same("undo of a restore", view(x), views[7]);
-        due("left", x.undo(), 1);
-        same("undo of a restore", view(x), views[4]);
-        due("left", x.undo(), 0);
-        same("undo of the first restore", view(x), views[8]);
+        same("what comes behind does not reach it", view(x), view(behindChanges(5)));
     }
 }
